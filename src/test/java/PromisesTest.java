@@ -69,6 +69,17 @@ public final class PromisesTest {
     return number;
   }
 
+  /** Each with KIND, MILE, UP, REASON, TIRED, STOPPED. */
+  private static void put(PennyRoad x, int[][] walkers) {
+    for (int[] w : walkers) {
+      int number = x.walker(w[0], w[1]);
+      x.set(number, 2, w[2]);
+      x.set(number, 3, w[3]);
+      x.set(number, 4, w[4]);
+      x.set(number, 7, w[5]);
+    }
+  }
+
   private static void newObject() {
     PennyRoad x = new PennyRoad();
     int[] now = {0, 1000, 1, 0, 0, 0, 0, 0};
@@ -538,6 +549,10 @@ public final class PromisesTest {
     due("14: the hatch above", x.comes(0, 12), 5);
     due("14: between its steps", x.comes(0, 1), NONE);
     due("14: nothing changes", x.of(0, 1), 3);
+    PennyRoad y = new PennyRoad();
+    put(y, new int[][] {{1, 12, 1, 4, 10, 0}, {0, 7, 1, 3, 9, 0}, {4, 12, 0, 8, 4, 0}, {2, 1, 0, 9, 8, 0}});
+    due("14: at the last hour", y.comes(3, 11), 200);
+    due("14: it is there then", y.on(3, 200, 0), 11);
     due("14: no such mile", x.comes(0, 13), BEYOND);
     due("14: no such one", x.comes(1, 0), BEYOND);
     for (int wild : WILD) {
@@ -559,6 +574,12 @@ public final class PromisesTest {
     due("15: now", x.meet(1, 2), 0);
     due("15: never", x.meet(0, 3), NONE);
     due("15: nothing changes", x.now(0), 0);
+    PennyRoad y = new PennyRoad();
+    y.road(2, 1);
+    put(y, new int[][] {{0, 2, 0, 0, 0, 0}, {0, 1, 0, 6, 2, 1}, {4, 7, 1, 6, 0, 0}, {2, 8, 1, 8, 4, 0},
+        {0, 2, 0, 9, 4, 0}, {2, 1, 1, 0, 6, 0}});
+    due("15: at the last hour", y.meet(4, 5), 200);
+    due("15: they are there then", y.on(4, 200, 0) - y.on(5, 200, 0), 0);
     due("15: itself", x.meet(0, 0), BEYOND);
     due("15: none", x.meet(0, 4), BEYOND);
     due("15: none first", x.meet(4, 0), BEYOND);
@@ -658,6 +679,7 @@ public final class PromisesTest {
     for (int i = 0; i < v.length; i++) {
       due("19: reason(0, 8, " + v[i] + ")", x.reason(0, 8, v[i]), want[i]);
     }
+    due("19: an hour", x.reason(0, 1, 30), 0);
     due("19: the most", x.reason(0, 100, 30 + 9 * 12), 9);
     due("19: more than the most", x.reason(0, 100, 31 + 9 * 12), NONE);
     due("19: nothing changes", x.of(0, 3), 5);
@@ -863,7 +885,7 @@ public final class PromisesTest {
   private static void textFaults() {
     Object[][] faults = {
       {"", 0}, {"   ", 3}, {";", 0}, {"dry;", 4}, {"dry; ", 5}, {"dry;;dry", 4}, {"dry dry", 4}, {"drydry", 0},
-      {"walkers", 0}, {"Walker", 0}, {"walker,", 6}, {"walker at", 9}, {"walker at ", 10}, {"walker at 13", 10},
+      {"walkers", 0}, {"walkerz", 0}, {"awalker", 0}, {"Walker", 0}, {"walker,", 6}, {"walker at", 9}, {"walker at ", 10}, {"walker at 13", 10},
       {"walker at down", 10}, {"walker 3", 7}, {"walker down at 3", 12}, {"walker reason 3 down", 16},
       {"walker at 3 at 4", 12}, {"walker down down", 12}, {"walker reason", 13}, {"walker reason 10", 14},
       {"walker reason 1 reason 1", 16}, {"fund", 4}, {"fund 10000", 5}, {"fund 4294967297", 5}, {"fund fund", 5},
@@ -1119,6 +1141,7 @@ public final class PromisesTest {
     x.road(2, 0);
     for (int what = 1; what < 8; what++) {
       x.set(1, what, 1);
+      x.set(2, what, 1);
     }
     x.of(9, 9);
     for (int i = 0; i < 2; i++) {
@@ -1135,6 +1158,7 @@ public final class PromisesTest {
       due("35: sheets are not kept", x.write(0, 0, 4), 4);
       due("35: findings are not taken back", x.status(0), 1);
       due("35: one more than there was", x.walker(0, 0), 2);
+      due("35: nothing of one that is gone", x.of(2, 4) + x.of(2, 5) + x.of(2, 6) + x.of(2, 7), 0);
       x.set(1, 6, 5);
     }
     due("36: something was", x.tear(), 1);
