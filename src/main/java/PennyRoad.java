@@ -879,7 +879,7 @@ public final class PennyRoad {
       length++;
     }
 
-    /** How many items came to the road, or -1 less the place of the fault. */
+    /** How many items came to the road, or -1 less the place of the fault: the road is spoilt then. */
     private int tellOnto(Road road) {
       next = 0;
       advance();
@@ -905,10 +905,12 @@ public final class PennyRoad {
         return takeWalker(road, kind);
       }
       if (takeWord("fund")) {
-        return takeFund(road);
+        road.fund = takeNumber(MOST_NUMBER);
+        return road.fund >= 0;
       }
       if (takeWord("penny")) {
-        return takePenny(road);
+        road.penny = takeNumber(MOST_PENNY);
+        return road.penny >= 0;
       }
       if (takeWord("rain")) {
         road.rain = 1;
@@ -928,41 +930,18 @@ public final class PennyRoad {
       advance();
       Walker one = road.join(kind, 0);
       if (takeWord("at")) {
-        if (!isNumberTo(LAST_MILE)) {
+        one.mile = takeNumber(LAST_MILE);
+        if (one.mile < 0) {
           return false;
         }
-        one.mile = number;
-        advance();
       }
       if (takeWord("down")) {
         one.up = 0;
       }
       if (takeWord("reason")) {
-        if (!isNumberTo(MOST_REASON)) {
-          return false;
-        }
-        one.reason = number;
-        advance();
+        one.reason = takeNumber(MOST_REASON);
       }
-      return true;
-    }
-
-    private boolean takeFund(Road road) {
-      if (!isNumberTo(MOST_NUMBER)) {
-        return false;
-      }
-      road.fund = number;
-      advance();
-      return true;
-    }
-
-    private boolean takePenny(Road road) {
-      if (!isNumberTo(MOST_PENNY)) {
-        return false;
-      }
-      road.penny = number;
-      advance();
-      return true;
+      return one.reason >= 0;
     }
 
     private int kindNamed() {
@@ -1005,8 +984,14 @@ public final class PennyRoad {
       return true;
     }
 
-    private boolean isNumberTo(int most) {
-      return sort == NUMBER && number <= most;
+    /** The number that is looked at, or -1, and then it is looked at still, if it may not be. */
+    private int takeNumber(int most) {
+      if (sort != NUMBER || number > most) {
+        return -1;
+      }
+      int taken = number;
+      advance();
+      return taken;
     }
 
     private void advance() {
