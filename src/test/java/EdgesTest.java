@@ -114,6 +114,10 @@ public final class EdgesTest {
     Roads.many(x, 7);
     x.image();
     due("4: the 8th", x.walker(5, 12), 7);
+    int[] most = {0, 12, 0, 9, 99, 12, 999999, 1};
+    for (int what = 1; what < 8; what++) {
+      x.set(7, what, most[what]);
+    }
     due("4: FULL", x.walker(0, 0), Check.FULL);
     x.undo();
     due("4: room again", x.walker(1, 3), 7);
@@ -594,31 +598,25 @@ public final class EdgesTest {
     due("24: nobody, and 0 isn't above 0", new PennyRoad().enough(1), 1);
     due("24: one", payees(0, 12).enough(1), 13);
     due("24: whatever FUND there is", payees(999999, 12).enough(1), 13);
-    // PENNY 20: a LOVER 480 for 12 miles, 40 a mile; a PEDLAR 2 and 20 a mile.
+    // PENNY 9: four LOVERS 864; PEDLARS 2 and 9 a mile, WALKERS 9 a mile.
     PennyRoad x = new PennyRoad();
-    x.road(1, 20);
-    Roads.arriving(x, 2, 12);
-    Roads.arriving(x, 2, 12);
-    Roads.arriving(x, 0, 1);
+    x.road(1, 9);
     for (int i = 0; i < 4; i++) {
-      Roads.arriving(x, 1, 0);
+      Roads.arriving(x, 2, 12);
     }
-    Roads.arriving(x, 5, 0);
-    due("24: 988 are asked", x.enough(1), 989);
-    x.set(7, WALKED, 0);
+    int[] walked = {12, 2, 0, 0};
+    for (int w : walked) {
+      Roads.arriving(x, 1, w);
+    }
+    due("24: 864, 110, 20, 2 and 2 are 998", x.enough(1), 999);
+    int[] asWalkers = {12, 3, 0, 0};
+    for (int i = 0; i < 4; i++) {
+      x.turn(4 + i, 0);
+      x.set(4 + i, WALKED, asWalkers[i]);
+    }
+    due("24: 864, 108 and 27 are 999", x.enough(1), NONE);
     x.turn(7, 1);
-    x.road(1, 19);
-    x.set(2, WALKED, 4);
-    due("24: 912, 76 and 10 are 998", x.enough(1), 999);
-    x.turn(2, 3);
-    due("24: half of 4 more are 1000", x.enough(1), NONE);
-    x.set(2, WALKED, 3);
-    x.turn(2, 1);
-    due("24: 912, 59 and 10 are 981", x.enough(1), 982);
-    x.set(2, WALKED, 4);
-    x.turn(2, 0);
-    x.turn(7, 0);
-    due("24: 912, 76 and 8 are 996", x.enough(1), 997);
+    due("24: and 2 more", x.enough(1), NONE);
     PennyRoad y = Roads.of(3, 0, 1, 5, 0, 0);
     due("24: n 59", y.enough(59), 73);
     due("24: n 60", y.enough(60), 91);

@@ -526,6 +526,10 @@ public final class TermsTest {
     late.walker(0, 9);
     due("ON behind HOUR 99999: n HOURS go on all the same", late.fund(1), 997);
     due("ON behind HOUR 99999: comes", late.comes(0, 0), 5);
+    // A PEDLAR is PAID in the second HOUR, which is 100000: its rest by 5 is 0.
+    late.walker(1, 8);
+    due("ON behind HOUR 99999: HOUR is 1 more all the same", late.on(1, 2, 2), 5);
+    due("ON behind HOUR 99999: nothing changes", late.now(0), 99999);
   }
 
   private static void sheetsAreFour() {

@@ -374,7 +374,8 @@ public final class TextTest {
     }
     due("HOUR is as it was", x.now(0), 1);
     due("FUND is as it was", x.now(1), 1000);
-    x.road(2, 1);
+    Check.tell(x, "rain");
+    due("rain: so it is", x.now(3), 1);
     Check.tell(x, "rain");
     due("rain: so it is, though it was", x.now(3), 1);
     Check.tell(x, "dry");
