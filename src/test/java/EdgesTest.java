@@ -528,6 +528,13 @@ public final class EdgesTest {
     PennyRoad pedlar = Roads.of(1, 5, 0, 5, 0, 0);
     pedlar.road(0, 2);
     due("21: WALKED 0 there, of several the least", pedlar.begin(0, 1), 0);
+    // From HOUR 1 a PEDLAR would be PAID twice by its last REASON, had it a mile more to go: there is none.
+    PennyRoad ends = new PennyRoad();
+    ends.hours(1);
+    Roads.add(ends, 1, 5, 0, 1, 0, 0);
+    due("21: no MILE above 12", ends.begin(0, 20), 12);
+    ends.set(0, UP, 1);
+    due("21: no MILE below 0", ends.begin(0, 20), 0);
   }
 
   private static void beginAtTheLast() {
