@@ -331,7 +331,7 @@ public final class EdgesTest {
     due("16: STOPPED", x.worn(0), NONE);
     due("16: a LAME one", Roads.of(3, 12, 1, 1, 0, 0).worn(0), NONE);
     due("16: a PILGRIM", Roads.of(5, 12, 1, 1, 0, 0).worn(0), NONE);
-    // No way takes more than 6 HOURS, so nobody that WEARS at all has a REASON as long as 200 HOURS.
+    // Those that WEAR go from HATCH to HATCH in 6 HOURS at most: none has a REASON for as long as 200 HOURS.
     PennyRoad late = Roads.of(2, 9, 1, 6, 4, 0);
     Roads.add(late, 1, 0, 1, 9, 9, 0);
     due("16: one of the longest", late.worn(1), 55);
