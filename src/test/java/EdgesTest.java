@@ -48,6 +48,7 @@ public final class EdgesTest {
     bookOfSizes();
     readPairs();
     imagesLatest();
+    looksPassTheImageBy();
     undoTakesAllBack();
     countTells();
     statusCountsAll();
@@ -857,6 +858,46 @@ public final class EdgesTest {
     y.image();
     y.undo();
     due("35: to all 8", y.undo(), 8);
+  }
+
+  private static void looksPassTheImageBy() {
+    PennyRoad plain = new PennyRoad();
+    PennyRoad keeping = new PennyRoad();
+    // What is kept is as unlike what there is as can be: nobody, no FUND, RAIN and the greatest PENNY.
+    keeping.road(0, 0);
+    keeping.road(1, 20);
+    keeping.road(2, 1);
+    keeping.image();
+    for (PennyRoad x : new PennyRoad[] {plain, keeping}) {
+      x.road(0, 30);
+      x.road(1, 1);
+      x.road(2, 0);
+      Roads.arriving(x, 0, 12);
+      Roads.arriving(x, 1, 12);
+      Roads.arriving(x, 2, 12);
+      x.sheet(0, 64, 40);
+      x.sheet(1, 8, 2);
+      x.write(1, 0, 12);
+      x.write(1, 1, 12);
+    }
+    due("12: FUND by hand: 30 less 12, 14 and what is left", keeping.fund(1), 0);
+    due("17: whom to stop by hand: 12 and 14 leave 4", keeping.stop(1), 4);
+    long[] alone = lookAll(plain);
+    long[] beside = lookAll(keeping);
+    for (int i = 0; i < alone.length; i++) {
+      due("34: a look passes what is kept by, look " + i, beside[i], alone[i]);
+    }
+    due("35: and what is kept stays as it was", keeping.undo(), 0);
+    due("35: FUND of what is kept", keeping.now(1), 0);
+    due("35: PENNY of what is kept", keeping.now(2), 20);
+    due("35: RAIN of what is kept", keeping.now(3), 1);
+  }
+
+  private static long[] lookAll(PennyRoad x) {
+    return new long[] {
+      x.on(0, 9, 0), x.on(1, 9, 1), x.on(2, 9, 2), x.fund(9), x.empty(), x.comes(0, 6), x.meet(0, 2), x.worn(1),
+      x.stop(1), x.stop(9), x.penny(9, 1), x.reason(2, 9, 1), x.kind(0, 9), x.begin(0, 9), x.richest(9),
+      x.rival(2, 0, 9), x.enough(9), x.book(0, 0), x.write(0, 39, 0), x.read(1, 0)};
   }
 
   private static void undoTakesAllBack() {

@@ -20,6 +20,7 @@ public final class LanguageTest {
     "\\bthrow\\b", "\\bthrows\\b", "\\btry\\b", "\\bcatch\\b", "\\bsynchronized\\b", "\\bassert\\b", "\\bimport\\b",
     "\\bpackage\\b", "\\bprotected\\b", "->", "::", "\\w+Exact\\b", "\\bdouble\\b", "\\bfloat\\b",
     "\\bSystem\\.(?!arraycopy)", "\\bstatic\\s*\\{", "\\bgoto\\b"};
+  private static final Set<String> LIBRARY = Set.of("Math.min", "Math.max", "Integer.bitCount", "System.arraycopy");
   private static final int LONGEST_METHOD = 60;
 
   public static void main(String[] args) throws IOException {
@@ -87,6 +88,10 @@ public final class LanguageTest {
     for (String pattern : FORBIDDEN) {
       Matcher found = Pattern.compile(pattern).matcher(code);
       Check.holds("the source has '" + pattern + "'", !found.find());
+    }
+    Matcher called = Pattern.compile("\\b[A-Z]\\w*\\.[a-z]\\w*(?=\\()").matcher(code);
+    while (called.find()) {
+      Check.holds("4: the library: " + called.group(), LIBRARY.contains(called.group()));
     }
     Check.holds("the source is plain ASCII", text.chars().allMatch(c -> c < 128));
     int start = 0;
